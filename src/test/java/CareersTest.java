@@ -28,14 +28,6 @@ public final class CareersTest {
         return roll;
     }
 
-    private static OfficeholdersRoll apart(int mentions) {
-        OfficeholdersRoll roll = new OfficeholdersRoll();
-        for (int k = 0; k < mentions; k++) {
-            roll.mention(0, 0, 0, 0);
-        }
-        return roll;
-    }
-
     /** 19 */
     private static void careerByYears() {
         OfficeholdersRoll roll = onePerson(1, 2, 3, 4);
@@ -116,7 +108,7 @@ public final class CareersTest {
 
     /** 21 */
     private static void kin() {
-        OfficeholdersRoll roll = apart(3);
+        OfficeholdersRoll roll = Rolls.alike(3);
         Due.answers("21 kin(0, 1)", false, () -> roll.kin(0, 1));
         Due.answers("21 kin(1, 0)", true, () -> roll.kin(1, 0));
         Due.answers("21 kin(0, 1) again", true, () -> roll.kin(0, 1));
@@ -130,7 +122,7 @@ public final class CareersTest {
 
     /** 22 */
     private static void degrees() {
-        OfficeholdersRoll roll = apart(6);
+        OfficeholdersRoll roll = Rolls.alike(6);
         Due.answers("22 to itself", 0, () -> roll.degree(0, 0));
         Due.answers("22 no steps", NONE, () -> roll.degree(0, 1));
         roll.kin(0, 1);
@@ -148,7 +140,7 @@ public final class CareersTest {
     }
 
     private static void degreesOfJoined() {
-        OfficeholdersRoll roll = apart(6);
+        OfficeholdersRoll roll = Rolls.alike(6);
         roll.kin(0, 1);
         roll.kin(2, 3);
         Due.answers("22 apart", NONE, () -> roll.degree(0, 3));
@@ -166,14 +158,14 @@ public final class CareersTest {
     }
 
     private static void longestWay() {
-        OfficeholdersRoll roll = apart(16);
+        OfficeholdersRoll roll = Rolls.alike(16);
         for (int mention = 1; mention < 16; mention++) {
             roll.kin(mention, mention - 1);
         }
         Due.answers("22 the longest way", 15, () -> roll.degree(0, 15));
         Due.answers("22 the longest way back", 15, () -> roll.degree(15, 0));
         Due.answers("22 the middle", 8, () -> roll.degree(7, 15));
-        OfficeholdersRoll late = apart(2);
+        OfficeholdersRoll late = Rolls.alike(2);
         for (int turn = 0; turn < 38; turn++) {
             late.join(0, 1);
             late.split(1);
@@ -185,7 +177,7 @@ public final class CareersTest {
     }
 
     private static void degreeRefused() {
-        OfficeholdersRoll roll = apart(2);
+        OfficeholdersRoll roll = Rolls.alike(2);
         Due.refuses("22 person 2", Due.INDEX, roll, () -> roll.degree(0, 2));
         Due.refuses("22 person 2", Due.INDEX, roll, () -> roll.degree(2, 0));
         Due.refuses("22 person 2, both the same", Due.INDEX, roll, () -> roll.degree(2, 2));

@@ -10,19 +10,12 @@ public final class GroupingsTest {
         bestOfAnyMentions();
         bestWhateverThePersons();
         bestRefused();
+        bestByOneWayAlone();
         rival();
         rivalRefused();
         differ();
         differAll();
         Due.end();
-    }
-
-    private static OfficeholdersRoll alike(int mentions) {
-        OfficeholdersRoll roll = new OfficeholdersRoll();
-        for (int k = 0; k < mentions; k++) {
-            roll.mention(0, 0, 0, 0);
-        }
-        return roll;
     }
 
     private static void best(String what, int due, OfficeholdersRoll roll, int mentions) {
@@ -32,7 +25,7 @@ public final class GroupingsTest {
 
     /** 23, 24 */
     private static void bestOfFew() {
-        OfficeholdersRoll roll = alike(3);
+        OfficeholdersRoll roll = Rolls.alike(3);
         best("of none", 0, roll, 0);
         best("of one", 0, roll, 4);
         best("of two", 5, roll, 5);
@@ -46,7 +39,7 @@ public final class GroupingsTest {
     }
 
     private static void bestOfSix() {
-        OfficeholdersRoll roll = alike(6);
+        OfficeholdersRoll roll = Rolls.alike(6);
         best("all six alike", 75, roll, 63);
         for (int one = 0; one < 6; one++) {
             for (int other = one + 1; other < 6; other++) {
@@ -128,7 +121,7 @@ public final class GroupingsTest {
     }
 
     private static void bestWhateverThePersons() {
-        OfficeholdersRoll roll = alike(3);
+        OfficeholdersRoll roll = Rolls.alike(3);
         roll.join(0, 1);
         best("joined or not", 15, roll, 7);
         roll.block(0, 1, true);
@@ -137,7 +130,7 @@ public final class GroupingsTest {
     }
 
     private static void bestRefused() {
-        OfficeholdersRoll roll = alike(7);
+        OfficeholdersRoll roll = Rolls.alike(7);
         for (int mentions : new int[] {127, 128, -1, Integer.MIN_VALUE, Integer.MAX_VALUE, 1 << 16, 1 << 30}) {
             Due.refuses("23 " + mentions, Due.ARGUMENT, roll, () -> roll.best(mentions));
             Due.refuses("24 " + mentions, Due.ARGUMENT, roll, () -> roll.bestAnew(mentions));
@@ -145,9 +138,23 @@ public final class GroupingsTest {
         best("six of seven", 75, roll, 126);
     }
 
+    private static void bestByOneWayAlone() {
+        OfficeholdersRoll roll = Rolls.alike(6);
+        Due.answers("24 six alone", 75, () -> roll.bestAnew(63));
+        Due.answers("23 five alone", 50, () -> roll.best(31));
+        Due.answers("24 four alone", 30, () -> roll.bestAnew(15));
+        roll.block(0, 1, true);
+        Due.answers("24 blocked since", 15, () -> roll.bestAnew(15));
+        roll.block(0, 2, true);
+        Due.answers("23 blocked since", 15, () -> roll.best(15));
+        roll.block(2, 1, true);
+        Due.answers("24 blocked since", 5, () -> roll.bestAnew(15));
+        Due.answers("23 the same", 5, () -> roll.best(15));
+    }
+
     /** 25 */
     private static void rival() {
-        OfficeholdersRoll roll = alike(2);
+        OfficeholdersRoll roll = Rolls.alike(2);
         Due.answers("25 none at first", NONE, () -> roll.rival(0, 15));
         Due.answers("25 the label before", 15, () -> roll.rival(0, 0));
         Due.answers("25 the label before", 0, () -> roll.rival(0, NONE));
@@ -156,7 +163,7 @@ public final class GroupingsTest {
     }
 
     private static void rivalRefused() {
-        OfficeholdersRoll roll = alike(2);
+        OfficeholdersRoll roll = Rolls.alike(2);
         roll.rival(0, 4);
         Due.refuses("25 no mention 2", Due.INDEX, roll, () -> roll.rival(2, 0));
         Due.refuses("25 no mention -1", Due.INDEX, roll, () -> roll.rival(-1, 0));
@@ -168,7 +175,7 @@ public final class GroupingsTest {
 
     /** 26 */
     private static void differ() {
-        OfficeholdersRoll roll = alike(4);
+        OfficeholdersRoll roll = Rolls.alike(4);
         Due.answers("26 all apart on both", 0, roll::differ);
         roll.rival(0, 5);
         Due.answers("26 one label", 0, roll::differ);
@@ -194,7 +201,7 @@ public final class GroupingsTest {
     }
 
     private static void differAll() {
-        OfficeholdersRoll roll = alike(16);
+        OfficeholdersRoll roll = Rolls.alike(16);
         for (int mention = 0; mention < 16; mention++) {
             roll.rival(mention, 0);
         }

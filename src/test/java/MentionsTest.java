@@ -78,14 +78,14 @@ public final class MentionsTest {
     }
 
     private static void mentionOrderOfExceptions() {
-        OfficeholdersRoll roll = full(16);
+        OfficeholdersRoll roll = Rolls.alike(16);
         Due.answers("2 post ahead of name", Due.INDEX, () -> roll.mention(10, 0, 0, 8));
         Due.answers("2 name ahead of no room", Due.ARGUMENT, () -> roll.mention(10, 0, 0, 0));
         Due.answers("2 post ahead of no room", Due.INDEX, () -> roll.mention(0, 0, 0, 8));
     }
 
     private static void mentionsFull() {
-        OfficeholdersRoll roll = full(16);
+        OfficeholdersRoll roll = Rolls.alike(16);
         Due.answers("2 the last one", 15, () -> roll.person(15));
         Due.answers("2 a 17th", Due.STATE, () -> roll.mention(0, 0, 0, 0));
         Due.answers("2 no 17th", Due.INDEX, () -> roll.person(16));
@@ -93,7 +93,7 @@ public final class MentionsTest {
     }
 
     private static void personsFull() {
-        OfficeholdersRoll roll = full(2);
+        OfficeholdersRoll roll = Rolls.alike(2);
         for (int number = 2; number < 40; number++) {
             int due = number;
             roll.join(0, 1);
@@ -153,20 +153,12 @@ public final class MentionsTest {
     }
 
     private static void objectsAreApart() {
-        OfficeholdersRoll one = full(3);
-        OfficeholdersRoll other = full(1);
+        OfficeholdersRoll one = Rolls.alike(3);
+        OfficeholdersRoll other = Rolls.alike(1);
         one.rank(2, 9);
         one.find(0, 5, 6);
         Due.answers("1 another object has its own mentions", Due.INDEX, () -> other.person(1));
         Due.answers("1 its own ranks", 2, () -> other.rank(2, 2));
         Due.answers("1 its own years", 999, () -> other.year(0, true));
-    }
-
-    private static OfficeholdersRoll full(int mentions) {
-        OfficeholdersRoll roll = new OfficeholdersRoll();
-        for (int k = 0; k < mentions; k++) {
-            roll.mention(0, 0, 0, 0);
-        }
-        return roll;
     }
 }

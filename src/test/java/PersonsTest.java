@@ -22,14 +22,6 @@ public final class PersonsTest {
         Due.end();
     }
 
-    private static OfficeholdersRoll alike(int mentions) {
-        OfficeholdersRoll roll = new OfficeholdersRoll();
-        for (int k = 0; k < mentions; k++) {
-            roll.mention(0, 0, 0, 0);
-        }
-        return roll;
-    }
-
     private static void refusesPairs(String what, OfficeholdersRoll roll, java.util.function.IntBinaryOperator call) {
         int count = Look.countMentions(roll);
         int[][] none = {{0, count}, {count, 0}, {-1, 0}, {0, -1}, {count, count}, {-1, -1},
@@ -42,7 +34,7 @@ public final class PersonsTest {
 
     /** 10 */
     private static void seal() {
-        OfficeholdersRoll roll = alike(3);
+        OfficeholdersRoll roll = Rolls.alike(3);
         Due.answers("10 seal(0, 1)", false, () -> roll.seal(0, 1));
         Due.answers("10 seal(1, 0)", true, () -> roll.seal(1, 0));
         Due.answers("10 seal(0, 1) again", true, () -> roll.seal(0, 1));
@@ -54,7 +46,7 @@ public final class PersonsTest {
 
     /** 11 */
     private static void block() {
-        OfficeholdersRoll roll = alike(3);
+        OfficeholdersRoll roll = Rolls.alike(3);
         Due.answers("11 not at first", false, () -> roll.block(0, 1, false));
         Due.answers("11 block(0, 1)", false, () -> roll.block(0, 1, true));
         Due.answers("11 block(1, 0) again", true, () -> roll.block(1, 0, true));
@@ -95,7 +87,7 @@ public final class PersonsTest {
         Due.answers("12 all", 13, () -> roll.weight(8, 0));
         roll.block(0, 8, true);
         Due.answers("12 a block weighs nothing", 13, () -> roll.weight(0, 8));
-        refusesPairs("12", alike(2), alike(2)::weight);
+        refusesPairs("12", Rolls.alike(2), Rolls.alike(2)::weight);
     }
 
     /** 13 */
@@ -210,7 +202,7 @@ public final class PersonsTest {
 
     /** 14 */
     private static void join() {
-        OfficeholdersRoll roll = alike(5);
+        OfficeholdersRoll roll = Rolls.alike(5);
         Due.answers("14 the lesser number", 1, () -> roll.join(3, 1));
         Due.answers("14 person(3)", 1, () -> roll.person(3));
         Due.answers("14 entry(3)", 1, () -> roll.entry(3));
@@ -244,7 +236,7 @@ public final class PersonsTest {
     }
 
     private static void joinLeads() {
-        OfficeholdersRoll roll = alike(6);
+        OfficeholdersRoll roll = Rolls.alike(6);
         roll.join(4, 5);
         roll.join(2, 3);
         roll.join(5, 3);
@@ -259,7 +251,7 @@ public final class PersonsTest {
     }
 
     private static void laterTellingPartsNobody() {
-        OfficeholdersRoll roll = alike(2);
+        OfficeholdersRoll roll = Rolls.alike(2);
         roll.mention(0, NONE, 0, 3);
         roll.seal(1, 2);
         roll.join(0, 1);
@@ -277,7 +269,7 @@ public final class PersonsTest {
 
     /** 15 */
     private static void split() {
-        OfficeholdersRoll roll = alike(4);
+        OfficeholdersRoll roll = Rolls.alike(4);
         roll.join(0, 1);
         roll.join(0, 2);
         Due.answers("15 a new person", 4, () -> roll.split(1));
@@ -294,7 +286,7 @@ public final class PersonsTest {
     }
 
     private static void splitTheMaker() {
-        OfficeholdersRoll roll = alike(3);
+        OfficeholdersRoll roll = Rolls.alike(3);
         roll.join(0, 1);
         roll.join(0, 2);
         Due.answers("15 the one that made the number", 3, () -> roll.split(0));
@@ -308,7 +300,7 @@ public final class PersonsTest {
     }
 
     private static void splitRefused() {
-        OfficeholdersRoll roll = alike(3);
+        OfficeholdersRoll roll = Rolls.alike(3);
         roll.join(0, 1);
         Due.refuses("15 no mention 3", Due.INDEX, roll, () -> roll.split(3));
         Due.refuses("15 no mention -1", Due.INDEX, roll, () -> roll.split(-1));
@@ -318,7 +310,7 @@ public final class PersonsTest {
     }
 
     private static void numbersNeverDie() {
-        OfficeholdersRoll roll = alike(2);
+        OfficeholdersRoll roll = Rolls.alike(2);
         for (int turn = 0; turn < 38; turn++) {
             int number = turn + 2;
             roll.join(turn % 2, 1 - turn % 2);
@@ -335,7 +327,7 @@ public final class PersonsTest {
 
     /** 16, 17, 18 */
     private static void personEntrySizeRefused() {
-        OfficeholdersRoll roll = alike(2);
+        OfficeholdersRoll roll = Rolls.alike(2);
         roll.join(0, 1);
         roll.split(0);
         for (int number : new int[] {-1, 3, 40, Integer.MIN_VALUE, Integer.MAX_VALUE}) {
