@@ -17,20 +17,9 @@ public final class CareersTest {
         Due.end();
     }
 
-    private static OfficeholdersRoll onePerson(int... posts) {
-        OfficeholdersRoll roll = new OfficeholdersRoll();
-        for (int mention = 0; mention < posts.length; mention++) {
-            roll.mention(0, 0, 0, posts[mention]);
-            if (mention > 0) {
-                roll.join(mention, 0);
-            }
-        }
-        return roll;
-    }
-
     /** 19 */
     private static void careerByYears() {
-        OfficeholdersRoll roll = onePerson(1, 2, 3, 4);
+        CountedRoll roll = Rolls.onePerson(1, 2, 3, 4);
         Due.is("19 of the same year by numbers", " 0 1 2 3", Look.careerOf(roll, 0));
         roll.find(0, 50, 60);
         Due.is("19 the later one goes behind", " 1 2 3 0", Look.careerOf(roll, 0));
@@ -45,7 +34,7 @@ public final class CareersTest {
     }
 
     private static void careerWithoutPosts() {
-        OfficeholdersRoll roll = new OfficeholdersRoll();
+        CountedRoll roll = new CountedRoll();
         roll.mention(0, 0, 0, NONE);
         roll.mention(0, 0, 0, 0);
         roll.mention(0, 0, 0, NONE);
@@ -62,7 +51,7 @@ public final class CareersTest {
     }
 
     private static void careerRefused() {
-        OfficeholdersRoll roll = onePerson(1, 2);
+        CountedRoll roll = Rolls.onePerson(1, 2);
         Due.refuses("19 person 2", Due.INDEX, roll, () -> roll.careerAt(2, 0));
         Due.refuses("19 person -1", Due.INDEX, roll, () -> roll.careerAt(-1, 0));
         Due.refuses("19 place -1", Due.INDEX, roll, () -> roll.careerAt(0, -1));
@@ -71,13 +60,13 @@ public final class CareersTest {
 
     /** 20 */
     private static void breaches() {
-        Due.answers("20 one mention", 0, () -> onePerson(5).breaches(0));
-        Due.answers("20 rising", 0, () -> onePerson(0, 3, 7).breaches(0));
-        Due.answers("20 the same rank", 0, () -> onePerson(4, 4).breaches(0));
-        Due.answers("20 falling", 2, () -> onePerson(7, 3, 0).breaches(0));
-        Due.answers("20 by the one right ahead alone", 1, () -> onePerson(7, 0, 3, 6).breaches(0));
-        Due.answers("20 without a post is passed over", 1, () -> onePerson(5, NONE, 4).breaches(0));
-        OfficeholdersRoll roll = onePerson(7, 3, 0);
+        Due.answers("20 one mention", 0, () -> Rolls.onePerson(5).breaches(0));
+        Due.answers("20 rising", 0, () -> Rolls.onePerson(0, 3, 7).breaches(0));
+        Due.answers("20 the same rank", 0, () -> Rolls.onePerson(4, 4).breaches(0));
+        Due.answers("20 falling", 2, () -> Rolls.onePerson(7, 3, 0).breaches(0));
+        Due.answers("20 by the one right ahead alone", 1, () -> Rolls.onePerson(7, 0, 3, 6).breaches(0));
+        Due.answers("20 without a post is passed over", 1, () -> Rolls.onePerson(5, NONE, 4).breaches(0));
+        CountedRoll roll = Rolls.onePerson(7, 3, 0);
         roll.find(0, 2, 999);
         roll.find(1, 1, 999);
         Due.answers("20 by years", 0, () -> roll.breaches(0));
@@ -87,7 +76,7 @@ public final class CareersTest {
     }
 
     private static void breachesByRanks() {
-        OfficeholdersRoll roll = onePerson(0, 1, 2);
+        CountedRoll roll = Rolls.onePerson(0, 1, 2);
         roll.rank(0, 9);
         Due.answers("20 by rank", 1, () -> roll.breaches(0));
         roll.rank(1, 9);
@@ -101,14 +90,14 @@ public final class CareersTest {
     }
 
     private static void breachesRefused() {
-        OfficeholdersRoll roll = onePerson(1, 0);
+        CountedRoll roll = Rolls.onePerson(1, 0);
         Due.refuses("20 person 2", Due.INDEX, roll, () -> roll.breaches(2));
         Due.refuses("20 person -1", Due.INDEX, roll, () -> roll.breaches(-1));
     }
 
     /** 21 */
     private static void kin() {
-        OfficeholdersRoll roll = Rolls.alike(3);
+        CountedRoll roll = Rolls.alike(3);
         Due.answers("21 kin(0, 1)", false, () -> roll.kin(0, 1));
         Due.answers("21 kin(1, 0)", true, () -> roll.kin(1, 0));
         Due.answers("21 kin(0, 1) again", true, () -> roll.kin(0, 1));
@@ -122,7 +111,7 @@ public final class CareersTest {
 
     /** 22 */
     private static void degrees() {
-        OfficeholdersRoll roll = Rolls.alike(6);
+        CountedRoll roll = Rolls.alike(6);
         Due.answers("22 to itself", 0, () -> roll.degree(0, 0));
         Due.answers("22 no steps", NONE, () -> roll.degree(0, 1));
         roll.kin(0, 1);
@@ -140,7 +129,7 @@ public final class CareersTest {
     }
 
     private static void degreesOfJoined() {
-        OfficeholdersRoll roll = Rolls.alike(6);
+        CountedRoll roll = Rolls.alike(6);
         roll.kin(0, 1);
         roll.kin(2, 3);
         Due.answers("22 apart", NONE, () -> roll.degree(0, 3));
@@ -158,14 +147,14 @@ public final class CareersTest {
     }
 
     private static void longestWay() {
-        OfficeholdersRoll roll = Rolls.alike(16);
+        CountedRoll roll = Rolls.alike(16);
         for (int mention = 1; mention < 16; mention++) {
             roll.kin(mention, mention - 1);
         }
         Due.answers("22 the longest way", 15, () -> roll.degree(0, 15));
         Due.answers("22 the longest way back", 15, () -> roll.degree(15, 0));
         Due.answers("22 the middle", 8, () -> roll.degree(7, 15));
-        OfficeholdersRoll late = Rolls.alike(2);
+        CountedRoll late = Rolls.alike(2);
         for (int turn = 0; turn < 38; turn++) {
             late.join(0, 1);
             late.split(1);
@@ -177,7 +166,7 @@ public final class CareersTest {
     }
 
     private static void degreeRefused() {
-        OfficeholdersRoll roll = Rolls.alike(2);
+        CountedRoll roll = Rolls.alike(2);
         Due.refuses("22 person 2", Due.INDEX, roll, () -> roll.degree(0, 2));
         Due.refuses("22 person 2", Due.INDEX, roll, () -> roll.degree(2, 0));
         Due.refuses("22 person 2, both the same", Due.INDEX, roll, () -> roll.degree(2, 2));

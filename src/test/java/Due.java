@@ -1,3 +1,5 @@
+import java.util.function.Function;
+
 /** Compares answers with those that are due, prints each that is not, and ends a test with its exit code. */
 final class Due {
     static final String INDEX = "IndexOutOfBoundsException";
@@ -36,10 +38,15 @@ final class Due {
     }
 
     /** That a call is refused, and that all that can be asked of the roll is then as it was. */
-    static void refuses(String what, String exception, OfficeholdersRoll roll, Call call) {
+    static void refuses(String what, String exception, CountedRoll roll, Call call) {
         String before = Look.at(roll);
         is(what, exception, answerOf(call));
         is(what + " changed nothing", before, Look.at(roll));
+    }
+
+    /** The same of a call that is told of which roll. */
+    static void refuses(String what, String exception, CountedRoll roll, Function<CountedRoll, Object> call) {
+        refuses(what, exception, roll, () -> call.apply(roll));
     }
 
     static boolean isAnyWrong() {

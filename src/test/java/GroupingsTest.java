@@ -18,14 +18,14 @@ public final class GroupingsTest {
         Due.end();
     }
 
-    private static void best(String what, int due, OfficeholdersRoll roll, int mentions) {
+    private static void best(String what, int due, CountedRoll roll, int mentions) {
         Due.answers("23 " + what, due, () -> roll.best(mentions));
         Due.answers("24 " + what, due, () -> roll.bestAnew(mentions));
     }
 
     /** 23, 24 */
     private static void bestOfFew() {
-        OfficeholdersRoll roll = Rolls.alike(3);
+        CountedRoll roll = Rolls.alike(3);
         best("of none", 0, roll, 0);
         best("of one", 0, roll, 4);
         best("of two", 5, roll, 5);
@@ -39,7 +39,7 @@ public final class GroupingsTest {
     }
 
     private static void bestOfSix() {
-        OfficeholdersRoll roll = Rolls.alike(6);
+        CountedRoll roll = Rolls.alike(6);
         best("all six alike", 75, roll, 63);
         for (int one = 0; one < 6; one++) {
             for (int other = one + 1; other < 6; other++) {
@@ -62,7 +62,7 @@ public final class GroupingsTest {
     }
 
     private static void bestNotRight() {
-        OfficeholdersRoll roll = new OfficeholdersRoll();
+        CountedRoll roll = new CountedRoll();
         roll.mention(0, 1, 0, 0);
         roll.mention(0, 2, 0, 0);
         roll.mention(0, NONE, 0, 0);
@@ -83,7 +83,7 @@ public final class GroupingsTest {
 
     /** A pair that is worth less than nothing may be in the best group, if the others are worth more. */
     private static void bestParts() {
-        OfficeholdersRoll roll = new OfficeholdersRoll();
+        CountedRoll roll = new CountedRoll();
         roll.mention(0, NONE, 0, NONE);
         roll.mention(0, NONE, 1, NONE);
         roll.mention(1, NONE, 1, NONE);
@@ -105,7 +105,7 @@ public final class GroupingsTest {
     }
 
     private static void bestOfAnyMentions() {
-        OfficeholdersRoll roll = new OfficeholdersRoll();
+        CountedRoll roll = new CountedRoll();
         for (int k = 0; k < 16; k++) {
             roll.mention(k % 4, NONE, k % 2, k % 3);
         }
@@ -121,7 +121,7 @@ public final class GroupingsTest {
     }
 
     private static void bestWhateverThePersons() {
-        OfficeholdersRoll roll = Rolls.alike(3);
+        CountedRoll roll = Rolls.alike(3);
         roll.join(0, 1);
         best("joined or not", 15, roll, 7);
         roll.block(0, 1, true);
@@ -130,7 +130,7 @@ public final class GroupingsTest {
     }
 
     private static void bestRefused() {
-        OfficeholdersRoll roll = Rolls.alike(7);
+        CountedRoll roll = Rolls.alike(7);
         for (int mentions : new int[] {127, 128, -1, Integer.MIN_VALUE, Integer.MAX_VALUE, 1 << 16, 1 << 30}) {
             Due.refuses("23 " + mentions, Due.ARGUMENT, roll, () -> roll.best(mentions));
             Due.refuses("24 " + mentions, Due.ARGUMENT, roll, () -> roll.bestAnew(mentions));
@@ -139,7 +139,7 @@ public final class GroupingsTest {
     }
 
     private static void bestByOneWayAlone() {
-        OfficeholdersRoll roll = Rolls.alike(6);
+        CountedRoll roll = Rolls.alike(6);
         Due.answers("24 six alone", 75, () -> roll.bestAnew(63));
         Due.answers("23 five alone", 50, () -> roll.best(31));
         Due.answers("24 four alone", 30, () -> roll.bestAnew(15));
@@ -154,7 +154,7 @@ public final class GroupingsTest {
 
     /** 25 */
     private static void rival() {
-        OfficeholdersRoll roll = Rolls.alike(2);
+        CountedRoll roll = Rolls.alike(2);
         Due.answers("25 none at first", NONE, () -> roll.rival(0, 15));
         Due.answers("25 the label before", 15, () -> roll.rival(0, 0));
         Due.answers("25 the label before", 0, () -> roll.rival(0, NONE));
@@ -163,7 +163,7 @@ public final class GroupingsTest {
     }
 
     private static void rivalRefused() {
-        OfficeholdersRoll roll = Rolls.alike(2);
+        CountedRoll roll = Rolls.alike(2);
         roll.rival(0, 4);
         Due.refuses("25 no mention 2", Due.INDEX, roll, () -> roll.rival(2, 0));
         Due.refuses("25 no mention -1", Due.INDEX, roll, () -> roll.rival(-1, 0));
@@ -175,7 +175,7 @@ public final class GroupingsTest {
 
     /** 26 */
     private static void differ() {
-        OfficeholdersRoll roll = Rolls.alike(4);
+        CountedRoll roll = Rolls.alike(4);
         Due.answers("26 all apart on both", 0, roll::differ);
         roll.rival(0, 5);
         Due.answers("26 one label", 0, roll::differ);
@@ -201,7 +201,7 @@ public final class GroupingsTest {
     }
 
     private static void differAll() {
-        OfficeholdersRoll roll = Rolls.alike(16);
+        CountedRoll roll = Rolls.alike(16);
         for (int mention = 0; mention < 16; mention++) {
             roll.rival(mention, 0);
         }

@@ -18,7 +18,7 @@ public final class MentionsTest {
 
     /** 1 */
     private static void newObject() {
-        OfficeholdersRoll roll = new OfficeholdersRoll();
+        CountedRoll roll = new CountedRoll();
         Due.is("1 NONE", -1, NONE);
         Due.answers("1 person(0)", Due.INDEX, () -> roll.person(0));
         Due.answers("1 year(0)", Due.INDEX, () -> roll.year(0, false));
@@ -41,7 +41,7 @@ public final class MentionsTest {
 
     /** 2 */
     private static void mention() {
-        OfficeholdersRoll roll = new OfficeholdersRoll();
+        CountedRoll roll = new CountedRoll();
         int[][] told = {{0, 0, 0, 0}, {9, 9, 5, 7}, {9, NONE, 0, NONE}, {0, 9, 5, 0}};
         for (int k = 0; k < told.length; k++) {
             int[] m = told[k];
@@ -62,7 +62,7 @@ public final class MentionsTest {
     }
 
     private static void mentionRefused() {
-        OfficeholdersRoll roll = new OfficeholdersRoll();
+        CountedRoll roll = new CountedRoll();
         roll.mention(1, 1, 1, 1);
         Due.refuses("2 post 8", Due.INDEX, roll, () -> roll.mention(0, 0, 0, 8));
         Due.refuses("2 post -2", Due.INDEX, roll, () -> roll.mention(0, 0, 0, -2));
@@ -78,14 +78,14 @@ public final class MentionsTest {
     }
 
     private static void mentionOrderOfExceptions() {
-        OfficeholdersRoll roll = Rolls.alike(16);
+        CountedRoll roll = Rolls.alike(16);
         Due.answers("2 post ahead of name", Due.INDEX, () -> roll.mention(10, 0, 0, 8));
         Due.answers("2 name ahead of no room", Due.ARGUMENT, () -> roll.mention(10, 0, 0, 0));
         Due.answers("2 post ahead of no room", Due.INDEX, () -> roll.mention(0, 0, 0, 8));
     }
 
     private static void mentionsFull() {
-        OfficeholdersRoll roll = Rolls.alike(16);
+        CountedRoll roll = Rolls.alike(16);
         Due.answers("2 the last one", 15, () -> roll.person(15));
         Due.answers("2 a 17th", Due.STATE, () -> roll.mention(0, 0, 0, 0));
         Due.answers("2 no 17th", Due.INDEX, () -> roll.person(16));
@@ -93,7 +93,7 @@ public final class MentionsTest {
     }
 
     private static void personsFull() {
-        OfficeholdersRoll roll = Rolls.alike(2);
+        CountedRoll roll = Rolls.alike(2);
         for (int number = 2; number < 40; number++) {
             int due = number;
             roll.join(0, 1);
@@ -110,7 +110,7 @@ public final class MentionsTest {
 
     /** 3 */
     private static void rank() {
-        OfficeholdersRoll roll = new OfficeholdersRoll();
+        CountedRoll roll = new CountedRoll();
         Due.answers("3 rank(3, 9)", 3, () -> roll.rank(3, 9));
         Due.answers("3 rank(3, 0)", 9, () -> roll.rank(3, 0));
         Due.answers("3 rank(3, 0) again", 0, () -> roll.rank(3, 0));
@@ -126,7 +126,7 @@ public final class MentionsTest {
 
     /** 4 */
     private static void bar() {
-        OfficeholdersRoll roll = new OfficeholdersRoll();
+        CountedRoll roll = new CountedRoll();
         Due.answers("4 bar(0, 7, true)", false, () -> roll.bar(0, 7, true));
         Due.answers("4 bar(7, 0, true)", true, () -> roll.bar(7, 0, true));
         Due.answers("4 bar(0, 6, false)", false, () -> roll.bar(0, 6, false));
@@ -141,7 +141,7 @@ public final class MentionsTest {
     }
 
     private static void barMatters() {
-        OfficeholdersRoll roll = new OfficeholdersRoll();
+        CountedRoll roll = new CountedRoll();
         roll.mention(0, 0, 0, 2);
         roll.mention(0, 0, 0, 5);
         roll.find(0, 7, 7);
@@ -153,8 +153,8 @@ public final class MentionsTest {
     }
 
     private static void objectsAreApart() {
-        OfficeholdersRoll one = Rolls.alike(3);
-        OfficeholdersRoll other = Rolls.alike(1);
+        CountedRoll one = Rolls.alike(3);
+        CountedRoll other = Rolls.alike(1);
         one.rank(2, 9);
         one.find(0, 5, 6);
         Due.answers("1 another object has its own mentions", Due.INDEX, () -> other.person(1));

@@ -22,7 +22,7 @@ public final class PersonsTest {
         Due.end();
     }
 
-    private static void refusesPairs(String what, OfficeholdersRoll roll, java.util.function.IntBinaryOperator call) {
+    private static void refusesPairs(String what, CountedRoll roll, java.util.function.IntBinaryOperator call) {
         int count = Look.countMentions(roll);
         int[][] none = {{0, count}, {count, 0}, {-1, 0}, {0, -1}, {count, count}, {-1, -1},
             {Integer.MAX_VALUE, 0}, {0, Integer.MIN_VALUE}};
@@ -34,7 +34,7 @@ public final class PersonsTest {
 
     /** 10 */
     private static void seal() {
-        OfficeholdersRoll roll = Rolls.alike(3);
+        CountedRoll roll = Rolls.alike(3);
         Due.answers("10 seal(0, 1)", false, () -> roll.seal(0, 1));
         Due.answers("10 seal(1, 0)", true, () -> roll.seal(1, 0));
         Due.answers("10 seal(0, 1) again", true, () -> roll.seal(0, 1));
@@ -46,7 +46,7 @@ public final class PersonsTest {
 
     /** 11 */
     private static void block() {
-        OfficeholdersRoll roll = Rolls.alike(3);
+        CountedRoll roll = Rolls.alike(3);
         Due.answers("11 not at first", false, () -> roll.block(0, 1, false));
         Due.answers("11 block(0, 1)", false, () -> roll.block(0, 1, true));
         Due.answers("11 block(1, 0) again", true, () -> roll.block(1, 0, true));
@@ -62,7 +62,7 @@ public final class PersonsTest {
 
     /** 12 */
     private static void weight() {
-        OfficeholdersRoll roll = new OfficeholdersRoll();
+        CountedRoll roll = new CountedRoll();
         roll.mention(1, 2, 3, 4);
         roll.mention(1, 5, 0, 0);
         roll.mention(0, 2, 0, 1);
@@ -87,12 +87,13 @@ public final class PersonsTest {
         Due.answers("12 all", 13, () -> roll.weight(8, 0));
         roll.block(0, 8, true);
         Due.answers("12 a block weighs nothing", 13, () -> roll.weight(0, 8));
-        refusesPairs("12", Rolls.alike(2), Rolls.alike(2)::weight);
+        CountedRoll two = Rolls.alike(2);
+        refusesPairs("12", two, two::weight);
     }
 
     /** 13 */
     private static void whyNotEach() {
-        OfficeholdersRoll roll = new OfficeholdersRoll();
+        CountedRoll roll = new CountedRoll();
         roll.mention(0, 0, 0, 0);
         roll.mention(0, 0, 1, 1);
         roll.mention(0, NONE, 0, NONE);
@@ -113,7 +114,7 @@ public final class PersonsTest {
 
     /** All that is against two is told at first, and taken back one by one. */
     private static void whyNotFirst() {
-        OfficeholdersRoll roll = new OfficeholdersRoll();
+        CountedRoll roll = new CountedRoll();
         roll.mention(0, 0, 0, 1);
         roll.mention(1, 1, 1, 2);
         roll.bar(1, 2, true);
@@ -140,7 +141,7 @@ public final class PersonsTest {
 
     /** 0 and 1 are one person, 2 and 3 another one; what is against it stands between 1 and 3. */
     private static void whyNotOfAllMentions() {
-        OfficeholdersRoll roll = new OfficeholdersRoll();
+        CountedRoll roll = new CountedRoll();
         roll.mention(0, NONE, 0, 0);
         roll.mention(0, 4, 0, 5);
         roll.mention(0, NONE, 0, 0);
@@ -173,7 +174,7 @@ public final class PersonsTest {
     }
 
     private static void whyNotCertain() {
-        OfficeholdersRoll roll = new OfficeholdersRoll();
+        CountedRoll roll = new CountedRoll();
         roll.mention(0, 0, 0, 1);
         roll.mention(0, 0, 0, 2);
         roll.mention(0, 0, 0, NONE);
@@ -191,7 +192,7 @@ public final class PersonsTest {
         roll.find(3, 30, 30);
         Due.answers("13 the same post is not barred", 0, () -> roll.whyNot(0, 3));
         Due.answers("13 barred with the other one", 4, () -> roll.whyNot(3, 1));
-        OfficeholdersRoll apart = new OfficeholdersRoll();
+        CountedRoll apart = new CountedRoll();
         apart.mention(0, 0, 0, 1);
         apart.mention(0, 0, 0, 2);
         apart.bar(1, 2, true);
@@ -202,7 +203,7 @@ public final class PersonsTest {
 
     /** 14 */
     private static void join() {
-        OfficeholdersRoll roll = Rolls.alike(5);
+        CountedRoll roll = Rolls.alike(5);
         Due.answers("14 the lesser number", 1, () -> roll.join(3, 1));
         Due.answers("14 person(3)", 1, () -> roll.person(3));
         Due.answers("14 entry(3)", 1, () -> roll.entry(3));
@@ -218,7 +219,7 @@ public final class PersonsTest {
     }
 
     private static void joinRefused() {
-        OfficeholdersRoll roll = new OfficeholdersRoll();
+        CountedRoll roll = new CountedRoll();
         roll.mention(0, 0, 0, 0);
         roll.mention(0, 1, 0, 0);
         roll.mention(0, NONE, 5, NONE);
@@ -236,7 +237,7 @@ public final class PersonsTest {
     }
 
     private static void joinLeads() {
-        OfficeholdersRoll roll = Rolls.alike(6);
+        CountedRoll roll = Rolls.alike(6);
         roll.join(4, 5);
         roll.join(2, 3);
         roll.join(5, 3);
@@ -251,7 +252,7 @@ public final class PersonsTest {
     }
 
     private static void laterTellingPartsNobody() {
-        OfficeholdersRoll roll = Rolls.alike(2);
+        CountedRoll roll = Rolls.alike(2);
         roll.mention(0, NONE, 0, 3);
         roll.seal(1, 2);
         roll.join(0, 1);
@@ -269,7 +270,7 @@ public final class PersonsTest {
 
     /** 15 */
     private static void split() {
-        OfficeholdersRoll roll = Rolls.alike(4);
+        CountedRoll roll = Rolls.alike(4);
         roll.join(0, 1);
         roll.join(0, 2);
         Due.answers("15 a new person", 4, () -> roll.split(1));
@@ -286,7 +287,7 @@ public final class PersonsTest {
     }
 
     private static void splitTheMaker() {
-        OfficeholdersRoll roll = Rolls.alike(3);
+        CountedRoll roll = Rolls.alike(3);
         roll.join(0, 1);
         roll.join(0, 2);
         Due.answers("15 the one that made the number", 3, () -> roll.split(0));
@@ -300,7 +301,7 @@ public final class PersonsTest {
     }
 
     private static void splitRefused() {
-        OfficeholdersRoll roll = Rolls.alike(3);
+        CountedRoll roll = Rolls.alike(3);
         roll.join(0, 1);
         Due.refuses("15 no mention 3", Due.INDEX, roll, () -> roll.split(3));
         Due.refuses("15 no mention -1", Due.INDEX, roll, () -> roll.split(-1));
@@ -310,7 +311,7 @@ public final class PersonsTest {
     }
 
     private static void numbersNeverDie() {
-        OfficeholdersRoll roll = Rolls.alike(2);
+        CountedRoll roll = Rolls.alike(2);
         for (int turn = 0; turn < 38; turn++) {
             int number = turn + 2;
             roll.join(turn % 2, 1 - turn % 2);
@@ -327,7 +328,7 @@ public final class PersonsTest {
 
     /** 16, 17, 18 */
     private static void personEntrySizeRefused() {
-        OfficeholdersRoll roll = Rolls.alike(2);
+        CountedRoll roll = Rolls.alike(2);
         roll.join(0, 1);
         roll.split(0);
         for (int number : new int[] {-1, 3, 40, Integer.MIN_VALUE, Integer.MAX_VALUE}) {

@@ -2,7 +2,7 @@ import java.lang.management.ManagementFactory;
 
 /** What an object and its calls take of the room in which a whole run lives: the calls make nothing at all. */
 public final class RoomTest {
-    private static final int ROUNDS = 20;
+    private static final int ROUNDS = 18;
     private static final long MOST_BYTES_OF_OBJECT = 16384;
     private static final long MOST_BYTES_OF_CALLS = 256;
 

@@ -23,7 +23,7 @@ public final class YearsTest {
         Due.end();
     }
 
-    private static void years(String what, OfficeholdersRoll roll, int mention, int first, int last) {
+    private static void years(String what, CountedRoll roll, int mention, int first, int last) {
         Due.answers(what + ": year first", first, () -> roll.year(mention, false));
         Due.answers(what + ": year last", last, () -> roll.year(mention, true));
         Due.answers(what + ": yearAnew first", first, () -> roll.yearAnew(mention, false));
@@ -32,7 +32,7 @@ public final class YearsTest {
 
     /** 5 */
     private static void aheadMoves() {
-        OfficeholdersRoll roll = Rolls.alike(3);
+        CountedRoll roll = Rolls.alike(3);
         Due.answers("5 gap 50", 2, () -> roll.ahead(0, 1, 50));
         years("5 former", roll, 0, 0, 949);
         years("5 latter", roll, 1, 50, 999);
@@ -46,7 +46,7 @@ public final class YearsTest {
     }
 
     private static void aheadChains() {
-        OfficeholdersRoll roll = Rolls.alike(4);
+        CountedRoll roll = Rolls.alike(4);
         roll.ahead(2, 3, 30);
         roll.ahead(1, 2, 20);
         Due.answers("5 a chain told from behind moves all", 4, () -> roll.ahead(0, 1, 10));
@@ -59,7 +59,7 @@ public final class YearsTest {
     }
 
     private static void aheadBackwards() {
-        OfficeholdersRoll roll = Rolls.alike(2);
+        CountedRoll roll = Rolls.alike(2);
         Due.answers("5 gap -50 binds nothing yet", 0, () -> roll.ahead(0, 1, -50));
         Due.answers("6 it moves the latter", 2, () -> roll.find(0, 500, 999));
         years("5 gap -50", roll, 1, 450, 999);
@@ -68,7 +68,7 @@ public final class YearsTest {
     }
 
     private static void aheadCircles() {
-        OfficeholdersRoll roll = Rolls.alike(2);
+        CountedRoll roll = Rolls.alike(2);
         roll.ahead(0, 1, 7);
         Due.refuses("5 a circle above 0", Due.STATE, roll, () -> roll.ahead(1, 0, -6));
         Due.answers("5 a circle of 0", 0, () -> roll.ahead(1, 0, -7));
@@ -78,7 +78,7 @@ public final class YearsTest {
     }
 
     private static void aheadLongCircle() {
-        OfficeholdersRoll roll = Rolls.alike(16);
+        CountedRoll roll = Rolls.alike(16);
         for (int k = 15; k > 0; k--) {
             roll.ahead(k - 1, k, 1);
         }
@@ -89,7 +89,7 @@ public final class YearsTest {
     }
 
     private static void aheadRefused() {
-        OfficeholdersRoll roll = Rolls.alike(2);
+        CountedRoll roll = Rolls.alike(2);
         roll.find(0, 100, 200);
         Due.refuses("5 no mention 2", Due.INDEX, roll, () -> roll.ahead(0, 2, 1));
         Due.refuses("5 no mention -1", Due.INDEX, roll, () -> roll.ahead(-1, 0, 1));
@@ -108,7 +108,7 @@ public final class YearsTest {
     }
 
     private static void aheadToldOften() {
-        OfficeholdersRoll roll = Rolls.alike(3);
+        CountedRoll roll = Rolls.alike(3);
         for (int k = 0; k < 20; k++) {
             roll.ahead(0, 1, 0);
             Due.answers("5 refused is not told", Due.STATE, () -> roll.ahead(1, 0, 1));
@@ -127,7 +127,7 @@ public final class YearsTest {
 
     /** 6 */
     private static void findNarrows() {
-        OfficeholdersRoll roll = Rolls.alike(2);
+        CountedRoll roll = Rolls.alike(2);
         Due.answers("6 all years", 0, () -> roll.find(0, 0, 999));
         Due.answers("6 first only", 1, () -> roll.find(0, 10, 999));
         years("6 first only", roll, 0, 10, 999);
@@ -147,7 +147,7 @@ public final class YearsTest {
     }
 
     private static void findMovesMany() {
-        OfficeholdersRoll roll = Rolls.alike(5);
+        CountedRoll roll = Rolls.alike(5);
         roll.ahead(0, 1, 10);
         roll.ahead(0, 2, 5);
         roll.ahead(1, 3, 10);
@@ -164,7 +164,7 @@ public final class YearsTest {
     }
 
     private static void findRefused() {
-        OfficeholdersRoll roll = Rolls.alike(2);
+        CountedRoll roll = Rolls.alike(2);
         Due.refuses("6 no mention 2", Due.INDEX, roll, () -> roll.find(2, 0, 1));
         Due.refuses("6 no mention -1", Due.INDEX, roll, () -> roll.find(-1, 0, 1));
         Due.refuses("6 mention ahead of years", Due.INDEX, roll, () -> roll.find(2, 5, 4));
@@ -178,7 +178,7 @@ public final class YearsTest {
 
     /** 7 */
     private static void wouldMoveKeepsAll() {
-        OfficeholdersRoll roll = Rolls.alike(3);
+        CountedRoll roll = Rolls.alike(3);
         roll.ahead(0, 1, 50);
         String before = Look.at(roll);
         Due.answers("7 both", 2, () -> roll.wouldMove(0, 10, 999));
@@ -196,7 +196,7 @@ public final class YearsTest {
     }
 
     private static void wouldMoveRefused() {
-        OfficeholdersRoll roll = Rolls.alike(2);
+        CountedRoll roll = Rolls.alike(2);
         Due.refuses("7 no mention 2", Due.INDEX, roll, () -> roll.wouldMove(2, 0, 1));
         Due.refuses("7 no mention -1", Due.INDEX, roll, () -> roll.wouldMove(-1, 5, 4));
         Due.refuses("7 low -1", Due.ARGUMENT, roll, () -> roll.wouldMove(0, -1, 5));
@@ -207,7 +207,7 @@ public final class YearsTest {
 
     /** 8, 9 */
     private static void yearRefused() {
-        OfficeholdersRoll roll = Rolls.alike(2);
+        CountedRoll roll = Rolls.alike(2);
         Due.refuses("8 no mention 2", Due.INDEX, roll, () -> roll.year(2, true));
         Due.refuses("8 no mention -1", Due.INDEX, roll, () -> roll.year(-1, false));
         Due.refuses("9 no mention 2", Due.INDEX, roll, () -> roll.yearAnew(2, false));
@@ -215,7 +215,7 @@ public final class YearsTest {
     }
 
     private static void longestChain() {
-        OfficeholdersRoll roll = Rolls.alike(16);
+        CountedRoll roll = Rolls.alike(16);
         for (int k = 15; k > 0; k--) {
             roll.ahead(k - 1, k, 50);
         }
@@ -230,7 +230,7 @@ public final class YearsTest {
 
     /** Told from the front on, last years need a round for each step, while first years need one. */
     private static void lastYearsAlone() {
-        OfficeholdersRoll roll = Rolls.alike(16);
+        CountedRoll roll = Rolls.alike(16);
         for (int k = 1; k < 16; k++) {
             roll.ahead(k - 1, k, 0);
         }
@@ -244,7 +244,7 @@ public final class YearsTest {
 
     /** 9: each answer is found anew, whatever was asked before. */
     private static void anewWithoutTheOther() {
-        OfficeholdersRoll roll = Rolls.alike(3);
+        CountedRoll roll = Rolls.alike(3);
         roll.ahead(0, 1, 20);
         Due.answers("9 last alone", 979, () -> roll.yearAnew(0, true));
         roll.ahead(1, 2, 30);
@@ -262,7 +262,7 @@ public final class YearsTest {
         for (int code = 0; code < 7 * 7 * 7 * 7; code++) {
             int[] gaps = {code % 7 - 3, code / 7 % 7 - 3, code / 49 % 7 - 3, code / 343 - 3};
             int[][] told = {{0, 1}, {1, 2}, {2, 0}, {0, 2}};
-            OfficeholdersRoll roll = Rolls.alike(3);
+            CountedRoll roll = Rolls.alike(3);
             int[][] years = {{4, 9}, {5, 8}, {3, 9}};
             for (int m = 0; m < 3; m++) {
                 roll.find(m, years[m][0], years[m][1]);
