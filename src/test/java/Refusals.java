@@ -26,8 +26,7 @@ final class Refusals {
         for (int value : new int[] {Integer.MIN_VALUE, Integer.MAX_VALUE, Integer.MIN_VALUE + greatest,
             greatest - 65536, least + 65536, greatest + 1024, greatest + 256, least + 256, least + 32}) {
             if (value < least || value > greatest) {
-                CountedRoll roll = maker.get();
-                Due.answers(what + " " + value, exception, () -> call.apply(roll, value));
+                of(what + " " + value, exception, roll -> call.apply(roll, value));
             }
         }
     }
