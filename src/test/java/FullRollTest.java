@@ -222,7 +222,7 @@ public final class FullRollTest {
         while (roll.callsMade() < CountedRoll.MOST_CALLS - 1) {
             askSomething(roll, roll.callsMade());
         }
-        Due.answers("the 512th call, " + open.name() + " " + number, early, () -> open.call().apply(roll, number));
+        Due.answers(open.name() + " " + number + ", as the 512th call", early, () -> open.call().apply(roll, number));
         Due.is("calls made", CountedRoll.MOST_CALLS, roll.callsMade());
     }
 
@@ -250,6 +250,6 @@ public final class FullRollTest {
                 default -> Due.answers("23 too many", Due.ARGUMENT, () -> roll.best(127));
             }
         }
-        Due.answers("the 512th call behind refused ones", 14, () -> roll.join(14, 15));
+        Due.answers("14 as the 512th call, behind refused ones", 14, () -> roll.join(14, 15));
     }
 }

@@ -16,16 +16,17 @@ public final class NoSuchTest {
 
     private static void all(String what, Supplier<CountedRoll> maker, int mentions, int persons) {
         Refusals refusals = new Refusals(maker);
-        each(what + ", ", refusals, Calls.ofMention(), mentions);
-        each(what + ", ", refusals, Calls.ofPerson(), persons);
-        each(what + ", ", refusals, Calls.ofPost(), 8);
+        each(what, refusals, Calls.ofMention(), mentions);
+        each(what, refusals, Calls.ofPerson(), persons);
+        each(what, refusals, Calls.ofPost(), 8);
     }
 
     private static void each(String what, Refusals refusals, List<Calls.Open> calls, int count) {
         for (Calls.Open open : calls) {
-            refusals.outside(what + open.name(), Due.INDEX, 0, count - 1, open.call());
+            String asked = open.name() + ", " + what + ", number";
+            refusals.outside(asked, Due.INDEX, 0, count - 1, open.call());
             if (count > 1) {
-                refusals.inside(what + open.name(), 0, count - 1, open.call());
+                refusals.inside(asked, 0, count - 1, open.call());
             }
         }
     }
